@@ -305,6 +305,11 @@ public final class CrashDesk {
         reckonedWithout = without;
     }
 
+    /** The less of two prices, where the one that is known may be NONE. */
+    private static int cheaper(int known, int price) {
+        return known == NONE || price < known ? price : known;
+    }
+
     /** A SKID as it was told; the desk makes all of them at once and fills them as they come. */
     private static final class Skid {
         int car = 0;
@@ -326,6 +331,10 @@ public final class CrashDesk {
     private static final class Speed {
         int low = SLOWEST;
         int high = FASTEST;
+
+        // No number below the bottom or above the top is open.
+        int bottom = SLOWEST;
+        int top = FASTEST;
         private final int[] prices = new int[NUMBERS];
         private final boolean[] seen = new boolean[NUMBERS];
 
@@ -358,6 +367,17 @@ public final class CrashDesk {
         void setPrice(int n, int price) {
             if (n >= SLOWEST && n <= FASTEST) {
                 prices[n - SLOWEST] = price;
+            }
+        }
+
+        void bound() {
+            bottom = FASTEST + 1;
+            top = SLOWEST - 1;
+            for (int n = SLOWEST; n <= FASTEST; n++) {
+                if (isOpen(n)) {
+                    bottom = Math.min(bottom, n);
+                    top = n;
+                }
             }
         }
 
@@ -437,18 +457,22 @@ public final class CrashDesk {
                 if (skidsBehind && !isTakenBehind(n)) {
                     after.setPrice(n, NONE);
                 }
-                joinFirsts(n);
+                if (at.isOpen(n)) {
+                    joinFirsts(n);
+                }
             }
+            at.bound();
+            after.bound();
         }
 
-        /** How many numbers of FIRST lead to this number of AT. */
+        /** How many numbers of FIRST lead to this number of AT, which must be open. */
         int firstCount(int n) {
             return n < SLOWEST || n > FASTEST ? 0 : firstCounts[n - SLOWEST];
         }
 
         /** FIRST bears on the other SPEEDS by AT alone: so it is seen once AT is. */
         void seeFirsts() {
-            for (int n = SLOWEST; n <= FASTEST; n++) {
+            for (int n = at.bottom; n <= at.top; n++) {
                 for (int pace = Math.abs(n); at.isSeen(n) && pace <= FASTEST; pace++) {
                     if (isTakenAhead(pace, n) && first.isOpen(firstFor(pace, n))) {
                         first.see(firstFor(pace, n));
@@ -466,15 +490,13 @@ public final class CrashDesk {
                 int price = isTakenAhead(pace, n) ? first.priceOf(firstFor(pace, n)) : NONE;
                 if (price != NONE) {
                     leading++;
-                    cheapest = cheapest == NONE ? price : Math.min(cheapest, price);
+                    cheapest = cheaper(cheapest, price);
                 }
             }
             if (n >= SLOWEST && n <= FASTEST) {
                 firstCounts[n - SLOWEST] = leading;
             }
-            if (at.isOpen(n)) {
-                at.setPrice(n, cheapest == NONE ? NONE : at.priceOf(n) + cheapest);
-            }
+            at.setPrice(n, cheapest == NONE ? NONE : at.priceOf(n) + cheapest);
         }
 
         private static int firstFor(int pace, int at) {
@@ -515,11 +537,9 @@ public final class CrashDesk {
             gain = lowestShare(zero.mass, one.mass);
             zero.settle();
             one.settle();
-            for (int fast = SLOWEST; fast <= FASTEST; fast++) {
-                for (int push = 1; zero.at.isOpen(fast) && push <= NUMBERS; push++) {
-                    if (zero.after.isOpen(fast - push * loss)) {
-                        meet(fast, push);
-                    }
+            for (int fast = zero.at.bottom; fast <= zero.at.top; fast++) {
+                if (zero.at.isOpen(fast)) {
+                    pushFrom(fast);
                 }
             }
             zero.seeFirsts();
@@ -536,6 +556,14 @@ public final class CrashDesk {
             return mass;
         }
 
+        private void pushFrom(int fast) {
+            for (int push = 1; push <= NUMBERS && fast - push * loss >= zero.after.bottom; push++) {
+                if (zero.after.isOpen(fast - push * loss)) {
+                    meet(fast, push);
+                }
+            }
+        }
+
         /**
          * Adds all WAYS with this AT of CAR 0 and so many pushes. The pushes must close the gap
          * between both AT, or CAR 0 would go through CAR 1. The strength lost is loss times MASS of
@@ -543,21 +571,28 @@ public final class CrashDesk {
          * the gap would gain strength.
          */
         private void meet(int fast, int push) {
-            int zeroAfter = fast - push * loss;
-            int zeroPrice = zero.at.priceOf(fast) + zero.after.priceOf(zeroAfter);
+            int given = push * gain;
             int closed = push * (loss + gain);
-            for (int gap = (closed + 1) / 2; gap <= closed && gap <= fast - SLOWEST; gap++) {
-                int slow = fast - gap;
-                int oneAfter = slow + push * gain;
-                if (one.at.isOpen(slow) && one.after.isOpen(oneAfter)) {
-                    zero.at.see(fast);
-                    zero.after.see(zeroAfter);
-                    one.at.see(slow);
-                    one.after.see(oneAfter);
-                    wayCount += (long) zero.firstCount(fast) * one.firstCount(slow);
-                    int price = zeroPrice + one.at.priceOf(slow) + one.after.priceOf(oneAfter);
-                    cheapest = cheapest == NONE ? price : Math.min(cheapest, price);
+            int from = Math.max(fast - closed, Math.max(one.at.bottom, one.after.bottom - given));
+            int to = Math.min(fast - (closed + 1) / 2, Math.min(one.at.top, one.after.top - given));
+            long met = 0;
+            int price = NONE;
+            for (int slow = from; slow <= to; slow++) {
+                int atPrice = one.at.prices[slow - SLOWEST];
+                int afterPrice = one.after.prices[slow + given - SLOWEST];
+                if (atPrice != NONE && afterPrice != NONE) {
+                    met += one.firstCounts[slow - SLOWEST];
+                    price = cheaper(price, atPrice + afterPrice);
+                    one.at.seen[slow - SLOWEST] = true;
+                    one.after.seen[slow + given - SLOWEST] = true;
                 }
+            }
+            if (met > 0) {
+                int left = fast - push * loss;
+                zero.at.see(fast);
+                zero.after.see(left);
+                wayCount += met * zero.firstCount(fast);
+                cheapest = cheaper(cheapest, price + zero.at.priceOf(fast) + zero.after.priceOf(left));
             }
         }
     }

@@ -8,6 +8,7 @@ final class LiteralTest {
     private Literal literal;
     private int run;
     private int[] truth;
+    private boolean[] marked;
 
     public static void main(String[] args) {
         LiteralTest test = new LiteralTest();
@@ -21,6 +22,7 @@ final class LiteralTest {
     private void oneRun() {
         desk = new CrashDesk();
         literal = new Literal();
+        marked = new boolean[4];
         masses();
         findTruth();
         if (any(4) > 0) {
@@ -77,7 +79,9 @@ final class LiteralTest {
 
     private void tell(int kind) {
         if (kind == 0) {
-            masses();
+            if (any(9) == 0) {
+                masses();
+            }
         } else if (kind <= 2) {
             tellSkid();
         } else if (kind == 3) {
@@ -103,15 +107,17 @@ final class LiteralTest {
             () -> literal.skid(car, behind, n[0], n[1], n[2], n[3]));
     }
 
-    /** A SKID that may take just what is true, about that, or next to nothing. */
+    /** A SKID that may take what is true, or next to nothing where there is such a one already. */
     private int[] trueSkid(int car, boolean behind) {
         int first = truth[car * 3];
         int at = truth[car * 3 + 1];
         int after = truth[car * 3 + 2];
         int taken = behind ? 51 * after * after : 51 * first * first - 51 * at * at;
-        if (any(5) == 0) {
-            return new int[] {0, any(4), 0, any(60)};
+        int side = car * 2 + (behind ? 1 : 0);
+        if (marked[side] && any(9) > 0) {
+            return new int[] {0, any(40), 0, any(60)};
         }
+        marked[side] = true;
         if (taken % 51 == 0 && any(3) == 0 && taken / 51 <= 2000) {
             return new int[] {taken / 51, taken / 51, 51, 51};
         }
@@ -144,7 +150,7 @@ final class LiteralTest {
         if (any(25) == 0) {
             return new int[] {any(110) - 55, any(110) - 55};
         }
-        int middle = any(4) == 0 ? any(101) - 50 : truth[s];
+        int middle = any(12) == 0 ? any(101) - 50 : truth[s];
         return new int[] {Math.max(-50, middle - any(about + 1)), Math.min(50, middle + any(about + 1))};
     }
 
