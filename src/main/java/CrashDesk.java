@@ -575,6 +575,9 @@ public final class CrashDesk {
             int closed = push * (loss + gain);
             int from = Math.max(fast - closed, Math.max(one.at.bottom, one.after.bottom - given));
             int to = Math.min(fast - (closed + 1) / 2, Math.min(one.at.top, one.after.top - given));
+            // The rows below have no other numbers; what is given is 1 at least.
+            from = Math.max(from, SLOWEST);
+            to = Math.min(to, FASTEST - given);
             long met = 0;
             int price = NONE;
             for (int slow = from; slow <= to; slow++) {

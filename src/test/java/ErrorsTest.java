@@ -79,11 +79,14 @@ final class ErrorsTest {
     }
 
     private static void spansAndTales() {
+        CrashDesk y = new CrashDesk();
+        for (int[] n : NO_SPANS) {
+            Due.throwing("sure of no span", ARGUMENT, () -> y.sure(0, 0, n[0], n[1]));
+            Due.throwing("sure of no span and no car", INDEX, () -> y.sure(2, 0, n[0], n[1]));
+        }
         CrashDesk x = new CrashDesk();
         for (int told = 0; told <= 10; told++) {
             for (int[] n : NO_SPANS) {
-                Due.throwing("sure of no span", ARGUMENT, () -> x.sure(0, 0, n[0], n[1]));
-                Due.throwing("sure of no span and no car", INDEX, () -> x.sure(2, 0, n[0], n[1]));
                 Due.throwing("tale of no span", ARGUMENT, () -> x.tale(1, 2, n[0], n[1]));
                 Due.throwing("tale of no span and no speed", INDEX, () -> x.tale(1, 3, n[0], n[1]));
             }
