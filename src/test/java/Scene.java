@@ -68,7 +68,7 @@ final class Scene {
         Due.same(what + ": what CAR " + car + ", SPEED " + speed + " can be", due.toString(), got.toString());
     }
 
-    /** All that can be asked of a desk, by some 250 calls, none of which tells it anything. */
+    /** All that can be asked of a desk, by some 190 calls, none of which tells it anything. */
     static String all(CrashDesk x) {
         StringBuilder all = new StringBuilder();
         counts(x, all);
